@@ -620,7 +620,9 @@ public final class LoomShed {
             loomCount = other.loomCount;
             endMoment = other.endMoment;
             pieceCount = other.pieceCount;
-            System.arraycopy(other.pieces, 0, pieces, 0, MOST_PIECES);
+            for (int i = 0; i < MOST_PIECES; i++) {
+                pieces[i] = other.pieces[i];
+            }
         }
     }
 

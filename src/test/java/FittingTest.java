@@ -12,6 +12,7 @@ public final class FittingTest {
         promise13FitsBehindTheEnd();
         promise14Lies();
         promise14LiesGivesWay();
+        promise14LiesOfTheFirst();
         promise14LiesOfSplit();
         promise14LiesRefuses();
         promise15On();
@@ -20,6 +21,7 @@ public final class FittingTest {
         promise17Crowded();
         promise17CrowdedFewest();
         promise17CrowdedLate();
+        mostMoments();
         Check.finish();
     }
 
@@ -46,6 +48,11 @@ public final class FittingTest {
         x.piece(4, 3, 30, 33);
         x.bar(3, 31, 32);
         due("most() with a barred one", x.most(), 67);
+        LoomShed y = new LoomShed();
+        y.piece(0, 2, 0, 15);
+        y.piece(0, 3, 0, 5);
+        y.piece(0, 3, 0, 5);
+        due("most() with one that can give way but in part", y.most(), 7);
     }
 
     private static void promise13Fits() {
@@ -104,6 +111,20 @@ public final class FittingTest {
         due("gives way half: lies(0, 0)", x.lies(0, 0), 1);
         due("gives way half: lies(0, 1)", x.lies(0, 1), 1);
         due("gives way half: lies(1, 0)", x.lies(1, 0), 2);
+    }
+
+    /** The last piece needs room ahead: not the first one gives way, but the second. */
+    private static void promise14LiesOfTheFirst() {
+        LoomShed x = new LoomShed();
+        x.piece(0, 1, 0, 4);
+        x.piece(0, 1, 0, 4);
+        x.piece(0, 1, 0, 2);
+        int[][] want = {{1, 0}, {0, 1}, {1, 0}};
+        for (int piece = 0; piece < 3; piece++) {
+            for (int s = 0; s < 2; s++) {
+                due("first: lies(" + piece + ", " + s + ")", x.lies(piece, s), want[piece][s]);
+            }
+        }
     }
 
     private static void promise14LiesOfSplit() {
@@ -240,5 +261,29 @@ public final class FittingTest {
         dueCrowded(manyStretches(58, 60), "late", 3 << 10, 0, 3 << 6);
         dueCrowded(manyStretches(51, 53), "about the 31st", 3 << 10, 1 << 30, 1);
         dueCrowded(manyStretches(0, 2), "early", 3 << 10, 3, 0);
+    }
+
+    /** Twelve barred pieces with 48 moments: 0 .. 23 and 37 .. 60. */
+    private static void mostMoments() {
+        LoomShed x = new LoomShed();
+        for (int i = 0; i < 12; i++) {
+            x.piece(4, 24, i, 60 - i);
+            x.bar(i, 12 + i, 48 - i);
+        }
+        due("most moments: count(2)", x.count(2), 47);
+        due("most moments: moment(23)", x.moment(23), 23);
+        due("most moments: moment(24)", x.moment(24), 37);
+        due("most moments: moment(47)", x.moment(47), 60);
+        due("most moments: moment(48)", x.moment(48), BAD);
+        due("most moments: most()", x.most(), 46);
+        due("most moments: lies(11, 46)", x.lies(11, 46), NOT);
+        x.looms(6);
+        // the pieces take 1, 2, .. 11, 12, 11, .. 1 in the hours of each half
+        due("most moments: most() on six", x.most(), 2 * (6 * 13 + 2 * 15));
+        // stretches 6 .. 16, and 30 .. 40, are wanted by seven and more
+        dueCrowded(x, "most moments", (1 << 12) - 1, 0x7ff << 6 | 1 << 30, 0x3ff);
+        due("most moments: fewest()", x.fewest(), 12);
+        due("most moments: speed(0)", x.speed(0), 4);
+        due("most moments: speed(1)", x.speed(1), 3);
     }
 }

@@ -10,6 +10,8 @@ public final class RandomRunsTest {
     private final int mostPieces;
     private final int latest;
     private final int longest;
+    /** In runs with a step of more than 1 moments often meet, and stretches are shared by many. */
+    private final int step;
     private final LoomShed fast = new LoomShed();
     private final SlowShed slow = new SlowShed();
     private int calls;
@@ -19,6 +21,7 @@ public final class RandomRunsTest {
         this.mostPieces = mostPieces;
         latest = random.nextBoolean() ? 60 : 4 + random.nextInt(20);
         longest = 1 + random.nextInt(random.nextBoolean() ? 60 : 8);
+        step = random.nextBoolean() ? 1 : 1 + random.nextInt(latest / 2);
     }
 
     public static void main(String[] args) {
@@ -28,6 +31,12 @@ public final class RandomRunsTest {
         }
         for (int seed = 0; seed < 6 * factor; seed++) {
             new RandomRunsTest(-1 - seed, 12).run(60);
+        }
+        for (int seed = 0; seed < 1500 * factor; seed++) {
+            new RandomRunsTest(seed, 2 + seed % 5).weave(false);
+        }
+        for (int seed = 0; seed < 4 * factor; seed++) {
+            new RandomRunsTest(seed, 12).weave(true);
         }
         Check.finish();
     }
@@ -47,6 +56,81 @@ public final class RandomRunsTest {
         askAll();
     }
 
+    /**
+     * Pieces cut from a cloth that was woven at random: they fit, and leave little room, so that
+     * the cloth due can be found by moving many amounts alone.
+     */
+    private void weave(boolean hasManyMoments) {
+        int looms = 1 + random.nextInt(random.nextBoolean() ? 2 : 6);
+        int[][] rows = new int[mostPieces][];
+        for (int p = 0; p < mostPieces; p++) {
+            rows[p] = hasManyMoments ? nestedRow(p) : randomRow();
+        }
+        cutLengths(rows, looms);
+        same("looms", fast.looms(looms), slow.looms(looms), looms);
+        for (int[] row : rows) {
+            if (row[1] > 0) {
+                addRow(row);
+            }
+        }
+        same("fits", slow.fits(), 1);
+        askAll();
+        askHours();
+    }
+
+    /** Kind, length (to be told yet), first, last, ways, begin, stop. */
+    private int[] randomRow() {
+        int kind = new int[] {0, 0, 3, 4}[random.nextInt(4)];
+        int first = random.nextInt(latest) / step * step;
+        int last = Math.min(latest, first + (1 + random.nextInt(latest / step)) * step);
+        int begin = random.nextInt(latest) / step * step;
+        int stop = Math.min(latest, begin + (1 + random.nextInt(latest / step)) * step);
+        return new int[] {kind, 0, first, last, kind == 3 ? 2 + random.nextInt(5) : 1, begin, stop};
+    }
+
+    /** Twelve of these have 48 moments, the most there can be. */
+    private int[] nestedRow(int p) {
+        return new int[] {4, 0, p, 60 - p, 1, 12 + p, 48 - p};
+    }
+
+    /** Hour by hour the looms go to pieces, from a piece at random on. */
+    private void cutLengths(int[][] rows, int looms) {
+        int idle = random.nextInt(4);
+        for (int t = 0; t < 60; t++) {
+            int room = looms - (random.nextInt(4) < idle ? random.nextInt(looms) : 0);
+            int start = random.nextInt(rows.length);
+            for (int i = 0; i < rows.length; i++) {
+                int[] row = rows[(start + i) % rows.length];
+                boolean isBarred = row[0] == 4 && row[5] <= t && t < row[6];
+                if (row[2] <= t && t < row[3] && !isBarred) {
+                    int amount = Math.min(60 - row[1], Math.min(room, row[4]));
+                    row[1] += amount;
+                    room -= amount;
+                }
+            }
+        }
+    }
+
+    private void addRow(int[] row) {
+        int piece = slow.count(1);
+        same("piece", fast.piece(row[0], row[1], row[2], row[3]),
+                slow.piece(row[0], row[1], row[2], row[3]), row);
+        if (row[0] == 3) {
+            same("ways", fast.ways(piece, row[4]), slow.ways(piece, row[4]), row);
+        }
+        if (row[0] == 4) {
+            same("bar", fast.bar(piece, row[5], row[6]), slow.bar(piece, row[5], row[6]), row);
+        }
+    }
+
+    private void askHours() {
+        for (int loom = 0; loom < slow.count(0); loom++) {
+            for (int t = 0; t < 60; t++) {
+                same("on", fast.on(loom, t), slow.on(loom, t), loom, t);
+            }
+        }
+    }
+
     private void same(String call, int got, int want, int... args) {
         calls++;
         StringBuilder text = new StringBuilder(call);
@@ -63,6 +147,19 @@ public final class RandomRunsTest {
         return least + random.nextInt(most - least + 1);
     }
 
+    private int moment(int least, int most) {
+        return number(least, most) / step * step;
+    }
+
+    /** Behind another one, if that is a moment. */
+    private int momentBehind(int t) {
+        int least = t < latest && t >= 0 ? t + 1 : 1;
+        if (step == 1) {
+            return number(least, latest);
+        }
+        return Math.min(latest, moment(least, latest) + step);
+    }
+
     private int pieceNumber() {
         return number(0, Math.max(0, slow.count(1) - 1));
     }
@@ -76,7 +173,7 @@ public final class RandomRunsTest {
                 same("looms", fast.looms(n), slow.looms(n), n);
                 break;
             case 1:
-                n = number(1, latest);
+                n = momentBehind(0);
                 same("end", fast.end(n), slow.end(n), n);
                 break;
             case 2:
@@ -84,8 +181,8 @@ public final class RandomRunsTest {
                 same("ways", fast.ways(p, n), slow.ways(p, n), p, n);
                 break;
             case 3:
-                n = number(0, latest - 1);
-                int stop = number(n < latest && n >= 0 ? n + 1 : 1, latest);
+                n = moment(0, latest - 1);
+                int stop = momentBehind(n);
                 same("bar", fast.bar(p, n, stop), slow.bar(p, n, stop), p, n, stop);
                 break;
             case 4:
@@ -107,8 +204,8 @@ public final class RandomRunsTest {
         }
         int kind = number(0, random.nextBoolean() ? 4 : 2);
         int length = number(1, longest);
-        int first = number(0, latest - 1);
-        int last = number(first < latest && first >= 0 ? first + 1 : 1, latest);
+        int first = moment(0, latest - 1);
+        int last = momentBehind(first);
         same("piece", fast.piece(kind, length, first, last), slow.piece(kind, length, first, last),
                 kind, length, first, last);
     }
