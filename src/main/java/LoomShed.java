@@ -31,7 +31,7 @@ public final class LoomShed {
     private static final int MOST_SHARED = 8;
     private static final int DAY_OF = 10;
 
-    /** Stands far above the rounds that any loop with it needs. */
+    /** Stands far above the rounds that any loop needs, and above all amounts. */
     private static final int MANY = 1_000_000;
 
     private final Shed shed = new Shed();
@@ -243,30 +243,11 @@ public final class LoomShed {
     // ---- 3 what least would do
 
     public int fewest() {
-        for (int n = 1; n <= MOST_TRIED_LOOMS; n++) {
-            if (wouldFit(n, 0)) {
-                return n;
-            }
-        }
-        return NONE;
+        return leastThatDoes(false, 1, MOST_TRIED_LOOMS);
     }
 
     public int delay() {
-        if (!wouldFit(shed.loomCount, MOST_DELAY)) {
-            return NONE;
-        }
-        // what fits still fits with more delay, so halving finds the least
-        int least = 0;
-        int most = MOST_DELAY;
-        for (int round = 0; round < MOST_DELAY && least < most; round++) {
-            int middle = (least + most) / 2;
-            if (wouldFit(shed.loomCount, middle)) {
-                most = middle;
-            } else {
-                least = middle + 1;
-            }
-        }
-        return least;
+        return leastThatDoes(true, 0, MOST_DELAY);
     }
 
     public int speed(int what) {
@@ -404,7 +385,27 @@ public final class LoomShed {
         return begins;
     }
 
-    private boolean wouldFit(int looms, int delay) {
+    /** The least delay, or number of looms, with which all fit; what fits still fits with more. */
+    private int leastThatDoes(boolean isDelay, int from, int to) {
+        if (!wouldFit(isDelay, to)) {
+            return NONE;
+        }
+        int least = from;
+        int most = to;
+        for (int round = 0; round < MANY && least < most; round++) {
+            int middle = (least + most) / 2;
+            if (wouldFit(isDelay, middle)) {
+                most = middle;
+            } else {
+                least = middle + 1;
+            }
+        }
+        return least;
+    }
+
+    private boolean wouldFit(boolean isDelay, int number) {
+        int looms = isDelay ? shed.loomCount : number;
+        int delay = isDelay ? number : 0;
         triedFrame.build(shed, looms, delay);
         triedLaying.layMost(triedFrame, 1, 1);
         return triedLaying.missing == 0;
@@ -1186,7 +1187,7 @@ public final class LoomShed {
             }
             Arrays.fill(sums, 0);
             Arrays.fill(longest, 0);
-            bestEnd = Integer.MAX_VALUE;
+            bestEnd = MANY;
             share(this, 0, 0);
             knownDays = n;
         }

@@ -14,6 +14,7 @@ public final class LeastTest {
         promise20Speed();
         promise20SpeedRefuses();
         promise21Level();
+        promise21LevelOfTwelve();
         promise21LevelRefuses();
         promise22Days();
         promise22DaysFirst();
@@ -162,6 +163,17 @@ public final class LeastTest {
         dueLevel("third", y, 0, 1, 4);
         dueLevel("second", y, 1, 3, 4);
         dueLevel("first", y, 2, 2, 1);
+    }
+
+    private static void promise21LevelOfTwelve() {
+        LoomShed x = new LoomShed();
+        for (int i = 0; i < 12; i++) {
+            x.piece(0, i + 1, 5 * i, 5 * i + 5);
+        }
+        for (int i = 0; i < 12; i++) {
+            boolean isWhole = (i + 1) % 5 == 0;
+            dueLevel("twelve", x, i, isWhole ? (i + 1) / 5 : i + 1, isWhole ? 1 : 5);
+        }
     }
 
     private static void promise21LevelRefuses() {
