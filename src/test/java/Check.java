@@ -20,7 +20,9 @@ final class Check {
         asked++;
         if (!isSo) {
             wrong++;
-            System.out.println("does not hold: " + what);
+            if (wrong <= 50) {
+                System.out.println("does not hold: " + what);
+            }
         }
     }
 
@@ -34,6 +36,23 @@ final class Check {
             for (int what = 0; what <= 6; what++) {
                 text.append(x.told(piece, what)).append(' ');
             }
+        }
+        return text.toString();
+    }
+
+    /** The state and what is known of it, in some 200 calls at most. */
+    static String viewOf(LoomShed x) {
+        StringBuilder text = new StringBuilder(stateOf(x));
+        for (int k = 0; k <= x.count(2); k++) {
+            text.append(x.moment(k)).append(' ');
+        }
+        text.append(x.most()).append(' ').append(x.cuts()).append(' ').append(x.fewest());
+        for (int what = 0; what <= 2; what++) {
+            text.append(' ').append(x.crowded(what));
+        }
+        for (int what = 0; what <= 1; what++) {
+            text.append(' ').append(x.speed(what)).append(' ').append(x.days(2, what));
+            text.append(' ').append(x.level(0, what));
         }
         return text.toString();
     }
