@@ -56,6 +56,17 @@ final class Document {
         return text.indexOf(heading);
     }
 
+    /** The words of the promise on a call. */
+    String promiseOf(String call) {
+        for (int promise = 1; promise <= PROMISES; promise++) {
+            String words = text.substring(startOf(promise), startOf(promise + 1));
+            if (words.contains(": " + call + " `")) {
+                return words;
+            }
+        }
+        return "";
+    }
+
     /** What no test has quoted of a promise, behind its heading and its call. */
     String unquotedOf(int promise) {
         return unquoted(text.indexOf("`: ", startOf(promise)) + 3, startOf(promise + 1));

@@ -7,6 +7,7 @@ import java.nio.file.Files;
 import java.nio.file.Path;
 import java.util.HashSet;
 import java.util.Set;
+import java.util.regex.Matcher;
 import java.util.regex.Pattern;
 
 /** The document's face, and those rules of LANGUAGE.md that can be seen from outside. */
@@ -25,7 +26,9 @@ public final class FaceTest {
         constants();
         face();
         membersInside();
-        words();
+        String source = Files.readString(Path.of(SOURCE));
+        lengths(source);
+        words(source);
         Check.finish();
     }
 
@@ -45,7 +48,11 @@ public final class FaceTest {
             if (Modifier.isPublic(m.getModifiers())) {
                 names.add(m.getName());
                 Check.holds(m + " is of the face", due.remove(m.getName() + " " + m.getParameterCount()));
+                Check.due(m + ", its modifiers", m.getModifiers(), Modifier.PUBLIC);
                 Check.holds(m + " answers an int", m.getReturnType() == int.class);
+                for (Class<?> type : m.getParameterTypes()) {
+                    Check.holds(m + " takes ints", type == int.class);
+                }
             }
         }
         Check.holds("nothing of the face is missing: " + due, due.isEmpty());
@@ -54,6 +61,15 @@ public final class FaceTest {
             Check.holds(m + " is public or private", isPublic || Modifier.isPrivate(m.getModifiers()));
             Check.holds(m + " has a name of its own", isPublic || !names.contains(m.getName()));
         }
+        for (Class<?> inside : face.getDeclaredClasses()) {
+            for (Method m : inside.getDeclaredMethods()) {
+                Check.holds(m + " has a name of its own", !names.contains(m.getName()));
+            }
+        }
+        constructor(face);
+    }
+
+    private static void constructor(Class<?> face) {
         Check.due("constructors", face.getDeclaredConstructors().length, 1);
         for (Constructor<?> c : face.getDeclaredConstructors()) {
             Check.holds(c + " is public", Modifier.isPublic(c.getModifiers()));
@@ -66,11 +82,14 @@ public final class FaceTest {
         for (Field f : LoomShed.class.getDeclaredFields()) {
             int is = f.getModifiers();
             publicFields += Modifier.isPublic(is) ? 1 : 0;
+            boolean isConstant = Modifier.isStatic(is) && Modifier.isFinal(is);
+            Check.holds(f + " is a constant int, if public", !Modifier.isPublic(is)
+                    || isConstant && f.getType() == int.class);
             Check.holds(f + " is public or private", Modifier.isPublic(is) || Modifier.isPrivate(is));
             Check.holds(f + " is no static state", !Modifier.isStatic(is) || Modifier.isFinal(is));
         }
         Check.due("public fields", publicFields, 4);
-        Check.holds("some twelve classes", LoomShed.class.getDeclaredClasses().length <= 12);
+        Check.holds("some twelve classes", LoomShed.class.getDeclaredClasses().length < 12);
         for (Class<?> inside : LoomShed.class.getDeclaredClasses()) {
             Check.holds(inside + " is static", Modifier.isStatic(inside.getModifiers()));
             Check.holds(inside + " is not public", !Modifier.isPublic(inside.getModifiers()));
@@ -81,8 +100,19 @@ public final class FaceTest {
         }
     }
 
-    private static void words() throws IOException {
-        String source = Files.readString(Path.of(SOURCE));
+    /** A method ends with the brace that stands below its beginning. */
+    private static void lengths(String source) {
+        Matcher method = Pattern.compile("(?ms)^( {4}| {8})\\w[^\n;=]*\\) \\{\n.*?^\\1\\}$").matcher(source);
+        int methods = 0;
+        while (method.find()) {
+            String text = method.group();
+            methods++;
+            Check.holds("short: " + text.split("\n")[0], text.split("\n").length <= 60);
+        }
+        Check.holds("methods are found", methods > 100);
+    }
+
+    private static void words(String source) {
         String code = source.replaceAll("(?s)/\\*.*?\\*/", " ").replaceAll("//[^\n]*", " ");
         for (String ruledOut : RULED_OUT) {
             Check.holds("no " + ruledOut, !Pattern.compile(ruledOut).matcher(code).find());
